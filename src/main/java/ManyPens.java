@@ -77,8 +77,8 @@ public final class ManyPens {
         if (book.isFull()) {
             return refuse(FULL);
         }
-        int before = place == 0 ? EDGE : reading.nameAt(place - 1);
-        return enter(sheet, new Put(book.count, sheet, before, codes));
+        int left = place == 0 ? EDGE : reading.nameAt(place - 1);
+        return enter(sheet, new Put(book.count, sheet, left, codes));
     }
 
     public int strike(int p, int from, int n) {
@@ -116,8 +116,8 @@ public final class ManyPens {
         }
         int first = reading.nameAt(from);
         int last = reading.nameAt(from + n - 1);
-        int end = how >= 2 ? reading.nextBehind(last) : NO_BOUND;
-        return enter(sheet, new Mark(book.count, sheet, first, last, end, tint, how % 2 == 1));
+        int bound = how >= 2 ? reading.nextBehind(last) : NO_BOUND;
+        return enter(sheet, new Mark(book.count, sheet, first, last, bound, tint, how % 2 == 1));
     }
 
     public int undo(int p, int slip) {
@@ -229,7 +229,7 @@ public final class ManyPens {
         if (asked == null) {
             return refuse(BEYOND);
         }
-        return asked instanceof Put put ? done(put.before) : refuse(KIND);
+        return asked instanceof Put put ? done(put.left) : refuse(KIND);
     }
 
     public int bound(int slip) {
@@ -237,7 +237,7 @@ public final class ManyPens {
         if (asked == null) {
             return refuse(BEYOND);
         }
-        return asked instanceof Mark mark ? done(mark.end) : refuse(KIND);
+        return asked instanceof Mark mark ? done(mark.bound) : refuse(KIND);
     }
 
     public int undone(int slip) {
@@ -245,7 +245,7 @@ public final class ManyPens {
         if (asked == null) {
             return refuse(BEYOND);
         }
-        return asked instanceof Undo undo ? done(undo.target) : refuse(KIND);
+        return asked instanceof Undo undo ? done(undo.undone) : refuse(KIND);
     }
 
     public boolean later(int one, int other) {
@@ -257,21 +257,11 @@ public final class ManyPens {
     // ---- texts
 
     public int length(int p) {
-        Sheet sheet = sheetOf(p);
-        if (sheet == null) {
-            return NONE;
-        }
-        reading.read(sheet, ANY_STAMP);
-        return reading.textSize;
+        return read(p) ? reading.textSize : NONE;
     }
 
     public int text(int p, int i, int what) {
-        Sheet sheet = sheetOf(p);
-        if (sheet == null) {
-            return NONE;
-        }
-        reading.read(sheet, ANY_STAMP);
-        if (!reading.isPlace(i)) {
+        if (!read(p) || !reading.isPlace(i)) {
             return NONE;
         }
         switch (what) {
@@ -290,30 +280,15 @@ public final class ManyPens {
     }
 
     public int signs(int p) {
-        Sheet sheet = sheetOf(p);
-        if (sheet == null) {
-            return NONE;
-        }
-        reading.read(sheet, ANY_STAMP);
-        return reading.orderSize;
+        return read(p) ? reading.orderSize : NONE;
     }
 
     public int order(int p, int i) {
-        Sheet sheet = sheetOf(p);
-        if (sheet == null) {
-            return NONE;
-        }
-        reading.read(sheet, ANY_STAMP);
-        return i >= 0 && i < reading.orderSize ? reading.order[i] : NONE;
+        return read(p) && i >= 0 && i < reading.orderSize ? reading.order[i] : NONE;
     }
 
     public int place(int p, int name) {
-        Sheet sheet = sheetOf(p);
-        if (sheet == null) {
-            return NOT_THERE;
-        }
-        reading.read(sheet, ANY_STAMP);
-        int spot = reading.spotOf(name);
+        int spot = read(p) ? reading.spotOf(name) : NONE;
         if (spot == NONE) {
             return NOT_THERE;
         }
@@ -321,21 +296,14 @@ public final class ManyPens {
     }
 
     public int strikers(int p, int name) {
-        Sheet sheet = sheetOf(p);
-        if (sheet == null) {
-            return NONE;
-        }
-        reading.read(sheet, ANY_STAMP);
-        int spot = reading.spotOf(name);
+        int spot = read(p) ? reading.spotOf(name) : NONE;
         return spot == NONE ? NONE : reading.struck[spot];
     }
 
     public int spans(int p, int tint) {
-        Sheet sheet = sheetOf(p);
-        if (sheet == null || !isTint(tint)) {
+        if (!isTint(tint) || !read(p)) {
             return NONE;
         }
-        reading.read(sheet, ANY_STAMP);
         reading.paint();
         return reading.stretchesOf(tint);
     }
@@ -431,6 +399,16 @@ public final class ManyPens {
         return p >= 0 && p < PENS ? sheets[p] : null;
     }
 
+    /** Reads a PEN's SHEET as it is now; false if there is no such PEN. */
+    private boolean read(int p) {
+        Sheet sheet = sheetOf(p);
+        if (sheet == null) {
+            return false;
+        }
+        reading.read(sheet, ANY_STAMP);
+        return true;
+    }
+
     private boolean haveSameTaken(Sheet one, Sheet other) {
         for (int i = 0; i < book.count; i++) {
             if (one.hasTaken(book.slips[i]) != other.hasTaken(book.slips[i])) {
@@ -518,38 +496,33 @@ public final class ManyPens {
     }
 
     private static final class Put extends Slip {
-        final int before;
+        final int left;
         final int[] codes;
 
-        Put(int number, Sheet sheet, int before, int[] codes) {
+        Put(int number, Sheet sheet, int left, int[] codes) {
             super(number, sheet);
-            this.before = before;
+            this.left = left;
             this.codes = codes;
         }
 
-        @Override
         int kind() {
             return PUT;
         }
 
-        @Override
         int size() {
             return codes.length;
         }
 
-        @Override
         int nameOf(int i) {
             return 4 * number + i;
         }
 
-        @Override
         int howManyNeeds() {
             return 1;
         }
 
-        @Override
         int need(int k) {
-            return putOf(before);
+            return putOf(left);
         }
     }
 
@@ -561,27 +534,22 @@ public final class ManyPens {
             this.names = names;
         }
 
-        @Override
         int kind() {
             return STRIKE;
         }
 
-        @Override
         int size() {
             return names.length;
         }
 
-        @Override
         int nameOf(int i) {
             return i >= 0 && i < names.length ? names[i] : NONE;
         }
 
-        @Override
         int howManyNeeds() {
             return names.length;
         }
 
-        @Override
         int need(int k) {
             return putOf(nameOf(k));
         }
@@ -590,76 +558,66 @@ public final class ManyPens {
     private static final class Mark extends Slip {
         final int first;
         final int last;
-        final int end;
+        final int bound;
         final int tint;
         final boolean on;
 
-        Mark(int number, Sheet sheet, int first, int last, int end, int tint, boolean on) {
+        Mark(int number, Sheet sheet, int first, int last, int bound, int tint, boolean on) {
             super(number, sheet);
             this.first = first;
             this.last = last;
-            this.end = end;
+            this.bound = bound;
             this.tint = tint;
             this.on = on;
         }
 
-        @Override
         int kind() {
             return MARK;
         }
 
-        @Override
         int size() {
             return 2;
         }
 
-        @Override
         int nameOf(int i) {
             return i == 0 ? first : last;
         }
 
-        @Override
         int howManyNeeds() {
             return 3;
         }
 
-        @Override
         int need(int k) {
-            return putOf(k < 2 ? nameOf(k) : end);
+            return putOf(k < 2 ? nameOf(k) : bound);
         }
     }
 
     private static final class Undo extends Slip {
-        final int target;
+        final int undone;
 
-        Undo(int number, Sheet sheet, int target) {
+        Undo(int number, Sheet sheet, int undone) {
             super(number, sheet);
-            this.target = target;
+            this.undone = undone;
         }
 
-        @Override
         int kind() {
             return UNDO;
         }
 
-        @Override
         int size() {
             return 0;
         }
 
-        @Override
         int nameOf(int i) {
             return NONE;
         }
 
-        @Override
         int howManyNeeds() {
             return 1;
         }
 
-        @Override
         int need(int k) {
-            return target;
+            return undone;
         }
     }
 
@@ -719,7 +677,9 @@ public final class ManyPens {
         private void insertSigns(Put put) {
             int n = put.codes.length;
             int at = spotFor(put);
-            System.arraycopy(order, at, order, at + n, orderSize - at);
+            for (int k = orderSize - 1; k >= at; k--) {
+                order[k + n] = order[k];
+            }
             for (int i = 0; i < n; i++) {
                 order[at + i] = put.nameOf(i);
             }
@@ -732,8 +692,8 @@ public final class ManyPens {
          */
         private int spotFor(Put put) {
             int at = 0;
-            if (put.before != EDGE) {
-                while (at < orderSize && order[at] != put.before) {
+            if (put.left != EDGE) {
+                while (at < orderSize && order[at] != put.left) {
                     at++;
                 }
                 at = Math.min(at + 1, orderSize);
@@ -918,10 +878,10 @@ public final class ManyPens {
         }
 
         private int endOf(Mark mark) {
-            if (mark.end == NO_BOUND) {
+            if (mark.bound == NO_BOUND) {
                 return spotOf(mark.last) + 1;
             }
-            return mark.end == EDGE ? orderSize : spotOf(mark.end);
+            return mark.bound == EDGE ? orderSize : spotOf(mark.bound);
         }
 
         private void findTaken(Sheet sheet, int lastStamp) {
@@ -936,7 +896,7 @@ public final class ManyPens {
         private void findUndone() {
             for (int i = book.count - 1; i >= 0; i--) {
                 if (standing[i] == WORKS && book.slips[i] instanceof Undo undo) {
-                    standing[undo.target] = TAKEN;
+                    standing[undo.undone] = TAKEN;
                 }
             }
         }

@@ -1,6 +1,6 @@
 /** Directed tests, promise by promise: ordinary inputs, the edges, and wrong inputs. */
 public final class PromiseTest {
-    private static final int NONE = 0;
+    private static final int FINE = 0;
     private static final int BEYOND = 1;
     private static final int FULL = 2;
     private static final int OTHER = 3;
@@ -33,7 +33,7 @@ public final class PromiseTest {
 
     private static void done(int promise, String what, ManyPens x, int got, int want) {
         due(promise, what, got, want);
-        due(promise, what + ", its finding", x.status(), NONE);
+        due(promise, what + ", its finding", x.status(), FINE);
     }
 
     /** The NAMES in ORDER at a SHEET. */
@@ -948,7 +948,7 @@ public final class PromiseTest {
 
     private static void statuses() {
         ManyPens x = new ManyPens();
-        due(29, "ahead of any act", x.status(), NONE);
+        due(29, "ahead of any act", x.status(), FINE);
         x.left(0);
         due(29, "refused", x.status(), BEYOND);
         x.length(9);
@@ -970,7 +970,7 @@ public final class PromiseTest {
         x.status();
         due(29, "asks change nothing", x.status(), BEYOND);
         write(x, 0, 0, "a");
-        due(29, "an act that is done", x.status(), NONE);
+        due(29, "an act that is done", x.status(), FINE);
         x.bound(0);
         due(29, "refused", x.status(), KIND);
         x.length(0);
@@ -978,20 +978,165 @@ public final class PromiseTest {
         x.text(0, 0, 0);
         due(29, "asks change nothing", x.status(), KIND);
         x.part(0, 0);
-        due(29, "part is an act", x.status(), NONE);
+        due(29, "part is an act", x.status(), FINE);
         x.strike(0, 0, -1);
         due(29, "refused", x.status(), NEGATIVE);
         x.left(0);
-        due(29, "left is an act", x.status(), NONE);
+        due(29, "left is an act", x.status(), FINE);
         x.undo(1, 0);
         due(29, "refused", x.status(), OTHER);
         x.carry(0, 0);
-        due(29, "carry is an act, though it changes nothing", x.status(), NONE);
+        due(29, "carry is an act, though it changes nothing", x.status(), FINE);
         x.undo(0, 0);
         x.undo(0, 0);
         due(29, "refused", x.status(), STILL);
         x.undone(1);
-        due(29, "undone is an act", x.status(), NONE);
+        due(29, "undone is an act", x.status(), FINE);
+    }
+
+    /** All 768 SIGNS that there can be: half of the PUTS at the beginning, half at the end. */
+    private static void mostSigns() {
+        ManyPens x = new ManyPens();
+        for (int i = 0; i < 254; i++) {
+            due(2, "put " + i, x.type(0, i % 2 == 0 ? 0 : 3 * i, 'a', 'b', 'c'), i);
+        }
+        x.all(0, 1);
+        write(x, 1, 762, "def");
+        write(x, 0, 0, "xyz");
+        x.all(0, 1);
+        x.all(1, 0);
+        due(19, "most signs", x.signs(1), 768);
+        due(17, "most seen", x.length(1), 768);
+        due(20, "first", x.order(1, 0), 4 * 255);
+        due(20, "last", x.order(1, 767), 4 * 254 + 2);
+        due(18, "last", x.text(1, 767, 0), 'f');
+        due(21, "last", x.place(1, 4 * 254 + 2), 767);
+        due(22, "last", x.strikers(1, 4 * 254 + 2), 0);
+        due(23, "no tint", x.spans(1, 0), 0);
+        due(24, "latest", x.history(1, 255), 254);
+        due(25, "last but three", x.asOf(1, 254, 761), 'c');
+        due(25, "no more then", x.asOf(1, 254, 762), -1);
+        due(26, "the same", x.unlike(0, 1), 0);
+        done(27, "behind the last", x, x.cursor(1, 0, 768, 0), 1);
+        due(28, "behind the last", x.where(1, 0), 768);
+        done(27, "at the end", x, x.cursor(1, 1, 768, 1), 1);
+        due(28, "at the end", x.where(1, 1), 768);
+        done(7, "to a third", x, x.all(1, 2), 256);
+        due(19, "there too", x.signs(2), 768);
+        due(26, "the same there", x.unlike(2, 1), 0);
+        x.all(0, 3);
+        due(26, "the same as one that got all", x.unlike(3, 2), 0);
+        due(26, "other than an empty one", x.unlike(4, 2), 1);
+        due(26, "and the other way round", x.unlike(2, 4), 1);
+    }
+
+    /** A chain: each PUT stands behind the one ahead of it; MARKS that grow and UNDOS among them. */
+    private static void longChain() {
+        ManyPens x = new ManyPens();
+        for (int i = 0; i < 250; i++) {
+            x.type(i % 2, i, 'a' + i % 26, -1, -1);
+            x.carry(i, 1 - i % 2);
+        }
+        due(20, "last of the chain", x.order(0, 249), 4 * 249);
+        due(11, "its stamp", x.slip(249, 1), 250);
+        x.mark(0, 0, 250, 2, 3);
+        x.strike(0, 100, 12);
+        x.undo(1, 1);
+        x.all(0, 1);
+        due(17, "without 13", x.length(1), 237);
+        due(23, "one stretch", x.spans(1, 2), 1);
+        due(18, "the last has it", x.text(1, 236, 2), 4);
+    }
+
+    /** Calls about different SHEETS by turns. */
+    private static void sheetsByTurns() {
+        ManyPens x = with("abc");
+        write(x, 1, 0, "de");
+        x.strike(0, 0, 1);
+        int[] lengths = {2, 2, 0};
+        int[] signs = {3, 2, 0};
+        int[] firsts = {1, 4, -1};
+        int[] seconds = {1, 5, -1};
+        int[] places = {-2, -3, -3};
+        int[] struck = {1, -1, -1};
+        for (int turn = 0; turn < 6; turn++) {
+            int p = turn % 3;
+            due(17, "by turns", x.length(p), lengths[p]);
+            due(19, "by turns", x.signs((p + 1) % 3), signs[(p + 1) % 3]);
+            due(18, "by turns", x.text(p, 0, 1), firsts[p]);
+            due(20, "by turns", x.order((p + 1) % 3, 1), seconds[(p + 1) % 3]);
+            due(21, "by turns", x.place(p, 0), places[p]);
+            due(22, "by turns", x.strikers((p + 1) % 3, 0), struck[(p + 1) % 3]);
+            due(21, "by turns", x.place((p + 2) % 3, 0), places[(p + 2) % 3]);
+            due(22, "by turns", x.strikers(p, 0), struck[p]);
+        }
+        x.length(2);
+        done(27, "a place of its own sheet", x, x.cursor(0, 0, 2, 0), 1);
+        x.length(2);
+        due(28, "at its own sheet", x.where(0, 0), 2);
+        x.length(0);
+        refused(27, "no place of its own sheet", x, x.cursor(2, 0, 1, 0), BEYOND);
+        due(26, "nothing alike", x.unlike(0, 1), 1);
+        due(26, "nothing to compare", x.unlike(2, 1), 1);
+        x.mark(1, 0, 1, 0, 1);
+        x.all(1, 2);
+        x.length(0);
+        due(23, "of its own sheet", x.spans(2, 0), 1);
+        due(23, "of another sheet", x.spans(0, 0), 0);
+    }
+
+    private static void alikeByTints() {
+        ManyPens x = with("abc");
+        x.mark(0, 0, 3, 0, 1);
+        x.all(0, 1);
+        x.mark(1, 1, 1, 0, 1);
+        due(26, "tints are the same, slips are not", x.unlike(0, 1), 4);
+        x.mark(0, 0, 1, 0, 0);
+        due(26, "tints differ at once", x.unlike(0, 1), 1);
+        x.mark(0, 0, 1, 0, 1);
+        x.mark(0, 2, 1, 1, 1);
+        due(26, "tints differ at the last", x.unlike(0, 1), 3);
+        ManyPens y = new ManyPens();
+        write(y, 0, 0, "a");
+        y.all(0, 1);
+        write(y, 0, 1, "b");
+        write(y, 1, 0, "c");
+        due(26, "first place differs", y.unlike(0, 1), 1);
+        y.undo(1, 2);
+        due(26, "one is longer", y.unlike(0, 1), 2);
+        due(26, "the other is longer", y.unlike(1, 0), 2);
+    }
+
+    /** A MARK's FIRST may be lacked while its LAST is there. */
+    private static void needsOfFirst() {
+        ManyPens x = with("a");
+        write(x, 1, 0, "b");
+        x.all(1, 0);
+        x.mark(0, 0, 2, 1, 3);
+        due(12, "first is the other's", x.part(2, 0), 4);
+        due(14, "the end", x.bound(2), -2);
+        x.carry(0, 2);
+        due(6, "first is not there", x.carry(2, 2), 0);
+        due(9, "first's put is lacked", x.lacks(2, 2), 1);
+        due(6, "first comes", x.carry(1, 2), 2);
+    }
+
+    private static void actsThatAreDone() {
+        ManyPens x = new ManyPens();
+        for (int act = 0; act < 7; act++) {
+            x.undo(0, 300);
+            due(29, "refused ahead of act " + act, x.status(), BEYOND);
+            switch (act) {
+                case 0: write(x, 0, 0, "abc"); break;
+                case 1: x.strike(0, 0, 1); break;
+                case 2: x.mark(0, 0, 2, 1, 3); break;
+                case 3: x.undo(0, 1); break;
+                case 4: x.all(0, 1); break;
+                case 5: x.cursor(0, 0, 0, 0); break;
+                default: x.bound(2);
+            }
+            due(29, "act " + act + " is done", x.status(), FINE);
+        }
     }
 
     public static void main(String[] args) {
@@ -1031,6 +1176,12 @@ public final class PromiseTest {
         cursors();
         cursorsAmongStruckSigns();
         statuses();
+        mostSigns();
+        longChain();
+        sheetsByTurns();
+        alikeByTints();
+        needsOfFirst();
+        actsThatAreDone();
         System.out.println(checks + " answers looked at, " + wrong + " not as due");
         if (wrong != 0) {
             System.exit(1);
