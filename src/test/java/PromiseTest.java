@@ -1,85 +1,5 @@
 /** Directed tests, promise by promise: ordinary inputs, the edges, and wrong inputs. */
-public final class PromiseTest {
-    private static final int FINE = 0;
-    private static final int BEYOND = 1;
-    private static final int FULL = 2;
-    private static final int OTHER = 3;
-    private static final int STILL = 4;
-    private static final int NEGATIVE = 5;
-    private static final int KIND = 6;
-    private static final int MIN = Integer.MIN_VALUE;
-    private static final int MAX = Integer.MAX_VALUE;
-    private static final int[] NO_PENS = {-1, 6, MIN, MAX};
-
-    private static int checks = 0;
-    private static int wrong = 0;
-
-    private static void due(int promise, String what, int got, int want) {
-        checks++;
-        if (got != want) {
-            wrong++;
-            System.out.println("promise " + promise + ": " + what + " answered " + got + ", due is " + want);
-        }
-    }
-
-    private static void due(int promise, String what, boolean got, boolean want) {
-        due(promise, what, got ? 1 : 0, want ? 1 : 0);
-    }
-
-    private static void refused(int promise, String what, ManyPens x, int got, int finding) {
-        due(promise, what, got, ManyPens.NONE);
-        due(promise, what + ", its finding", x.status(), finding);
-    }
-
-    private static void done(int promise, String what, ManyPens x, int got, int want) {
-        due(promise, what, got, want);
-        due(promise, what + ", its finding", x.status(), FINE);
-    }
-
-    /** The NAMES in ORDER at a SHEET. */
-    private static void dueOrder(int promise, String what, ManyPens x, int p, int... names) {
-        due(promise, what + ": signs", x.signs(p), names.length);
-        for (int i = 0; i < names.length; i++) {
-            due(promise, what + ": order " + i, x.order(p, i), names[i]);
-        }
-        due(promise, what + ": order behind the last", x.order(p, names.length), -1);
-    }
-
-    /** The TEXT of a SHEET, as characters. */
-    private static void dueText(int promise, String what, ManyPens x, int p, String text) {
-        due(promise, what + ": length", x.length(p), text.length());
-        for (int i = 0; i < text.length(); i++) {
-            due(promise, what + ": code at " + i, x.text(p, i, 0), text.charAt(i));
-        }
-        due(promise, what + ": code behind the last", x.text(p, text.length(), 0), -1);
-    }
-
-    private static void dueTints(int promise, String what, ManyPens x, int p, int... tints) {
-        due(promise, what + ": length", x.length(p), tints.length);
-        for (int i = 0; i < tints.length; i++) {
-            due(promise, what + ": tints at " + i, x.text(p, i, 2), tints[i]);
-        }
-    }
-
-    private static int write(ManyPens x, int p, int place, String codes) {
-        return x.type(p, place, codes.charAt(0),
-                codes.length() > 1 ? codes.charAt(1) : -1, codes.length() > 2 ? codes.charAt(2) : -1);
-    }
-
-    private static ManyPens with(String first) {
-        ManyPens x = new ManyPens();
-        write(x, 0, 0, first);
-        return x;
-    }
-
-    private static ManyPens full() {
-        ManyPens x = new ManyPens();
-        for (int i = 0; i < 256; i++) {
-            due(2, "type number " + i, x.type(0, 0, i % 256, -1, -1), i);
-        }
-        return x;
-    }
-
+public final class PromiseTest extends Checks {
     private static void newObject() {
         ManyPens x = new ManyPens();
         due(1, "slips", x.slips(), 0);
@@ -143,7 +63,7 @@ public final class PromiseTest {
     }
 
     private static void typingFull() {
-        ManyPens x = full();
+        ManyPens x = filled(256);
         refused(2, "full", x, x.type(1, 0, 'a', -1, -1), FULL);
         refused(2, "beyond ahead of full", x, x.type(1, 1, 'a', -1, -1), BEYOND);
         refused(2, "bad code ahead of full", x, x.type(1, 0, 256, -1, -1), BEYOND);
@@ -1182,9 +1102,6 @@ public final class PromiseTest {
         alikeByTints();
         needsOfFirst();
         actsThatAreDone();
-        System.out.println(checks + " answers looked at, " + wrong + " not as due");
-        if (wrong != 0) {
-            System.exit(1);
-        }
+        end();
     }
 }
