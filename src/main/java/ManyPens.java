@@ -22,7 +22,8 @@ public final class ManyPens {
     private static final int NO_BOUND = -3;
     private static final int NOT_SEEN = -2;
     private static final int NOT_THERE = -3;
-    private static final int ANY_STAMP = Integer.MAX_VALUE;
+    /** No STAMP is above this, as each one is at most one more than that of a SLIP made ahead. */
+    private static final int ANY_STAMP = MOST_SLIPS;
 
     // The KINDS of SLIPS.
     private static final int PUT = 0;

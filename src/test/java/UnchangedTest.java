@@ -253,9 +253,9 @@ public final class UnchangedTest extends Checks {
     private static void asksLeaveTheFinding() {
         Sight asks = new Sight(new int[] {-1, 0, 2, 3, 5, 7, 8, 9, 256}, new int[] {-1, 0, 4, 5});
         ManyPens x = new ManyPens();
-        int calls = 512;
+        int calls = MOST_CALLS;
         for (int k = 0; k < asks.size(); k++) {
-            if (calls > 508) {
+            if (calls > MOST_CALLS - 4) {
                 x = new ManyPens();
                 steps(x, STEPS);
                 x.left(2);

@@ -13,8 +13,16 @@ abstract class Checks {
     static final int MAX = Integer.MAX_VALUE;
     static final int MOST_SLIPS = 256;
 
-    /** For sentences of the document that stand under 'Terms'. */
+    /** "An object is used for at most 512 calls after it has been made": no test gives one more of them. */
+    static final int MOST_CALLS = 512;
+
+    /** For sentences that stand under no promise: under 'Terms', 'What it is', 'The public face', or elsewhere. */
     static final int TERMS = 0;
+    static final int WHAT_IT_IS = -1;
+    static final int FACE = -2;
+    static final int LANGUAGE = -3;
+    static final int README = -4;
+    private static final String[] OTHERS = {"terms", "what it is", "the public face", "LANGUAGE.md", "README.md"};
 
     static final int[] NO_PENS = outside(0, 5);
 
@@ -35,7 +43,7 @@ abstract class Checks {
         checks++;
         if (got != want) {
             wrong++;
-            String where = promise == TERMS ? "terms" : "promise " + promise;
+            String where = promise <= TERMS ? OTHERS[-promise] : "promise " + promise;
             System.out.println(where + ": " + what + " answered " + got + ", due is " + want);
         }
     }

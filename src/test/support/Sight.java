@@ -14,8 +14,6 @@ final class Sight {
         int on(ManyPens x);
     }
 
-    private static final int MOST_CALLS = 512;
-
     private final List<String> names = new ArrayList<>();
     private final List<Ask> asks = new ArrayList<>();
 
@@ -50,7 +48,10 @@ final class Sight {
     /** The answers behind a run of so many calls. */
     int[] behind(Run run, int calls) {
         int[] answers = new int[asks.size()];
-        int step = MOST_CALLS - calls;
+        int step = Checks.MOST_CALLS - calls;
+        if (step <= 0) {
+            throw new IllegalArgumentException("a run of " + calls + " calls leaves none to ask");
+        }
         for (int from = 0; from < answers.length; from += step) {
             ManyPens x = new ManyPens();
             run.on(x);
